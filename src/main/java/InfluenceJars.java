@@ -24,8 +24,8 @@ public final class InfluenceJars {
     private final Machine trial = new Machine();
     private final History history = new History();
     private final Machine[] slots = new Machine[SLOTS];
-    private final Pad pad = new Pad();
-    private final DeedReader reader = new DeedReader(pad);
+    private final DeedReader reader = new DeedReader();
+    private final Pad pad = reader.pad;
 
     public InfluenceJars() {
     }
@@ -665,17 +665,13 @@ public final class InfluenceJars {
         static final int TOUCHES = 0, TURNS = 1, DISCHARGES = 2;
         private static final int NO_NUMBER = -1;
 
-        private final Pad pad;
+        final Pad pad = new Pad();
         private int at;
         int deed;
         int disc;
         int place;
         /** The charge of a touch, or how many turns. */
         int amount;
-
-        DeedReader(Pad pad) {
-            this.pad = pad;
-        }
 
         void start() {
             at = 0;

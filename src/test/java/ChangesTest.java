@@ -326,6 +326,9 @@ public final class ChangesTest {
         Check.due("the pad is empty", jars.count(13), 0);
         Check.due("one change", jars.count(14), changes + 1);
         Check.due("run() again", jars.run(), InfluenceJars.BAD_TEXT);
+        Check.write(jars, "f11=10;.1");
+        Check.due("run() with sparks ahead of it", jars.run(), 1);
+        Check.due("sparks so far", jars.count(6), 3);
     }
 
     private static void runWithFault() {

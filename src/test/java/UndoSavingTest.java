@@ -106,7 +106,7 @@ public final class UndoSavingTest {
     }
 
     private static void undoBringsAllBack() {
-        InfluenceJars jars = Machines.with(24, 2, 3);
+        InfluenceJars jars = Machines.with(17, 5, 8);
         jars.set(InfluenceJars.SWING, 60);
         jars.touch(0, 1, 99);
         jars.touch(1, 4, -77);
@@ -115,6 +115,7 @@ public final class UndoSavingTest {
         Check.holds("nine sparks or more", jars.count(6) > 8);
         jars.turn(37);
         int[] other = Machines.state(jars);
+        Check.holds("it leaked in these turns", other[10] != before[10]);
         jars.undo();
         Machines.dueState("undo()", jars, before);
         jars.turn(37);

@@ -96,6 +96,7 @@ public final class WhatIfTest {
             Check.due("ifTurned(1, " + what + ")", jars.ifTurned(1, what), BAD_VALUE);
         }
         Check.due("ifTurned(1, 0)", jars.ifTurned(1, 0), 0);
+        Check.due("ifTurned(400, 4)", jars.ifTurned(400, 4), 0);
         Check.due("ifTurned(400, 5)", jars.ifTurned(400, 5), 0);
     }
 
