@@ -24,6 +24,7 @@ public final class FaceTest {
                         == (Modifier.PUBLIC | Modifier.FINAL));
         members();
         classesInside();
+        membersInside();
         words();
         Check.end();
     }
@@ -79,6 +80,28 @@ public final class FaceTest {
                 fields += Modifier.isStatic(field.getModifiers()) ? 0 : 1;
             }
             Check.holds(one + " has at most twenty fields", fields <= 20);
+        }
+    }
+
+    /** Rule 1: no name of the face inside; rule 5: no static state; rule 11: at most seven parameters. */
+    private static void membersInside() {
+        Set<String> face = new TreeSet<>();
+        for (Method method : InfluenceJars.class.getDeclaredMethods()) {
+            if (Modifier.isPublic(method.getModifiers())) {
+                face.add(method.getName());
+            }
+        }
+        for (Class<?> one : InfluenceJars.class.getDeclaredClasses()) {
+            for (Method method : one.getDeclaredMethods()) {
+                Check.holds(method + " has its own name", !face.contains(method.getName()));
+                Check.holds(method + " has few parameters", method.getParameterCount() <= 7);
+                Check.holds(method + " is not public", !Modifier.isPublic(method.getModifiers()));
+            }
+            for (Field field : one.getDeclaredFields()) {
+                int modifiers = field.getModifiers();
+                Check.holds(field + " is final, if static", !Modifier.isStatic(modifiers) || Modifier.isFinal(modifiers));
+            }
+            Check.due("classes inside " + one, one.getDeclaredClasses().length, 0);
         }
     }
 
